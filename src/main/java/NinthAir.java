@@ -17,6 +17,8 @@ public final class NinthAir {
     private static final int DOOR_SETS = 1 << DOORS;
     private static final int ROOM_SETS = 1 << ROOMS;
     private static final int MOST_PEOPLE = 8;
+    /** The set of all there can be. */
+    private static final int EVERYBODY = (1 << MOST_PEOPLE) - 1;
     private static final int MOST_AIR = 9999;
     private static final int MOST_FIRE = 99;
     private static final int MOST_TIGHT = 9;
@@ -195,7 +197,7 @@ public final class NinthAir {
             case 2: return sum(night.frosts, ROOMS);
             case 3: return sum(night.fires, ROOMS);
             case 4: return night.stifledSet();
-            case 5: return night.breathIn(night.everybody());
+            case 5: return night.breathIn(EVERYBODY);
             case 6: return night.openDoors;
             default: return finding(BEYOND);
         }
@@ -217,7 +219,7 @@ public final class NinthAir {
         if (night.stifled[one] == 1) {
             return finding(STATE);
         }
-        int well = startAhead().wellHoursOf(1 << one, FAR);
+        int well = startAhead().wellHours(1 << one, FAR);
         return well == FAR ? finding(NONE) : well + 1;
     }
 
@@ -233,7 +235,7 @@ public final class NinthAir {
     }
 
     public int well() {
-        return startAhead().wellHours(FAR);
+        return startAhead().wellHours(EVERYBODY, FAR);
     }
 
     // ---- doors, fires, sleep (n 0 to 40 HOURS)
@@ -244,7 +246,7 @@ public final class NinthAir {
         for (int set = 0; set < DOOR_SETS; set++) {
             Night then = startAhead();
             then.openDoors = set;
-            int well = then.wellHours(FAR);
+            int well = then.wellHours(EVERYBODY, FAR);
             if (well > longest) {
                 longest = well;
                 best = set;
@@ -258,7 +260,7 @@ public final class NinthAir {
             return finding(BEYOND);
         }
         int fewest = startAhead().stifledAfter(n);
-        int best = NONE;
+        int best = -1;
         for (int door = 0; door < DOORS; door++) {
             Night then = startAhead();
             then.openDoors ^= 1 << door;
@@ -268,7 +270,7 @@ public final class NinthAir {
                 best = door;
             }
         }
-        return best == NONE ? finding(NONE) : best;
+        return best < 0 ? finding(NONE) : best;
     }
 
     public int fire(int room, int n) {
@@ -278,7 +280,7 @@ public final class NinthAir {
         for (int fire = 0; fire <= MOST_FIRE; fire++) {
             Night then = startAhead();
             then.fires[room] = fire;
-            if (then.wellHours(n) == n) {
+            if (then.wellHours(EVERYBODY, n) == n) {
                 return fire;
             }
         }
@@ -309,7 +311,7 @@ public final class NinthAir {
         for (int room = 0; room < ROOMS; room++) {
             Night then = startAhead();
             then.places[one] = room;
-            int well = then.wellHoursOf(1 << one, FAR);
+            int well = then.wellHours(1 << one, FAR);
             if (well > longest) {
                 longest = well;
                 best = room;
@@ -624,7 +626,7 @@ public final class NinthAir {
             Night then = startAhead();
             then.fires[a] = one;
             then.fires[b] = both - one;
-            if (then.wellHours(n) == n) {
+            if (then.wellHours(EVERYBODY, n) == n) {
                 return true;
             }
         }
@@ -759,10 +761,6 @@ public final class NinthAir {
                 System.arraycopy(row, one + 1, row, one, behind);
             }
             people--;
-        }
-
-        int everybody() {
-            return (1 << people) - 1;
         }
 
         int peopleIn(int room) {
@@ -900,12 +898,8 @@ public final class NinthAir {
             return newly;
         }
 
-        int wellHours(int most) {
-            return wellHoursOf(everybody(), most);
-        }
-
         /** Lets HOURS go, most at most, until one of the set becomes STIFLED: how many went ahead of that. */
-        int wellHoursOf(int set, int most) {
+        int wellHours(int set, int most) {
             for (int h = 0; h < most; h++) {
                 if ((passHour() & set) != 0) {
                     return h;

@@ -50,6 +50,8 @@ final class DawnTest {
         DUE.is("owed: none has any", x.owed(), 0);
         x.room(7, 1, 1);
         DUE.is("owed: the last", x.owed(), 7);
+        x.room(1, 1, 2);
+        DUE.is("owed: the second", x.owed(), 1);
         x.room(3, 1, 5);
         x.room(5, 1, 5);
         DUE.is("owed: of several the least", x.owed(), 3);
@@ -77,6 +79,8 @@ final class DawnTest {
         DUE.is("leaked(0, 41, 0)", x.leaked(0, 41, 0), Due.BEYOND);
         DUE.is("leaked(0, 0, -1)", x.leaked(0, 0, -1), Due.BEYOND);
         DUE.is("leaked(0, 0, 10000)", x.leaked(0, 0, 10000), Due.BEYOND);
+        x.room(4, 0, 0);
+        DUE.is("leaked(4, 40, 0)", x.leaked(4, 40, 0), 10);
         x.room(4, 0, 9999);
         DUE.is("leaked(4, 0, 9999)", x.leaked(4, 0, 9999), 10);
     }

@@ -212,6 +212,9 @@ final class HoursTest {
         DUE.is("177", x.when(0), 60);
         x.room(0, 0, 180);
         DUE.is("180: not in 60", x.when(0), Due.NONE);
+        x.room(0, 0, 9999);
+        DUE.is("9999: not for long", x.when(0), Due.NONE);
+        x.room(0, 0, 180);
         DUE.is("the other one", x.when(1), 34);
         x.set(0, 4, 1);
         DUE.is("STIFLED now", x.when(0), Due.STATE);

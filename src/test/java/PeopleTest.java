@@ -29,8 +29,14 @@ final class PeopleTest {
         DUE.is("a 9th", x.one(0, 0), Due.FULL);
         DUE.is("a 9th, wrong: BEYOND is asked first", x.one(6, 0), Due.BEYOND);
         DUE.is("PEOPLE", x.count(0), 8);
-        x.goes(0);
+        x.set(7, 2, 20);
+        x.set(7, 3, 9);
+        x.set(7, 4, 1);
+        DUE.is("the last goes", x.goes(7), 9);
         DUE.is("an 8th again", x.one(5, 5), 7);
+        DUE.is("NEED of a new one", x.of(7, 2), 3);
+        DUE.is("HOURS of a new one", x.of(7, 3), 0);
+        DUE.is("STIFLED of a new one", x.of(7, 4), 0);
     }
 
     private static void breathing() {
@@ -69,6 +75,7 @@ final class PeopleTest {
         x.one(4, 2);
         x.one(1, 1);
         DUE.is("CHOIR of 4", x.of(0, 5), 9);
+        DUE.is("CHOIR of 4, the last", x.of(3, 5), 9);
         DUE.is("CHOIR elsewhere", x.of(4, 5), 6);
         x.set(1, 4, 1);
         DUE.is("CHOIR with one STIFLED", x.of(0, 5), 8);

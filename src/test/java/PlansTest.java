@@ -54,6 +54,7 @@ final class PlansTest {
         DUE.is("shut: as soon as one would be", x.shut(4), 0);
         DUE.is("shut: not as early", x.shut(3), Due.NONE);
         DUE.is("shut(0)", x.shut(0), Due.NONE);
+        DUE.is("shut: NONE is counted", x.status(3), 2);
         DUE.is("shut(-1)", x.shut(-1), Due.BEYOND);
         DUE.is("shut(41)", x.shut(41), Due.BEYOND);
         x = greedyIn(3, 0);
@@ -96,7 +97,10 @@ final class PlansTest {
         x.set(1, 2, 20);
         x.set(2, 2, 9);
         DUE.is("fire: 98", x.fire(0, 40), 98);
-        x.set(2, 2, 10);
+        x.turn(2, 0);
+        x.set(2, 2, 19);
+        DUE.is("fire: 99", x.fire(0, 40), 99);
+        x.set(2, 2, 20);
         DUE.is("fire: 100 is too much", x.fire(0, 1), Due.NONE);
     }
 
@@ -117,7 +121,12 @@ final class PlansTest {
         DUE.is("fires: their own stay", x.now(3), 180);
         DUE.is("fires(0, 3, 0)", x.fires(0, 3, 0), 0);
         x.turn(1, 1);
-        DUE.is("fires: 21 is too much", x.fires(0, 3, 1), Due.NONE);
+        DUE.is("fires: 40 for one ROOM", x.fires(0, 3, 1), Due.NONE);
+        x.turn(1, 0);
+        x.one(0, 0);
+        x.set(2, 2, 1);
+        DUE.is("fires: 21 for one ROOM", x.fires(0, 3, 1), Due.NONE);
+        x.goes(2);
         DUE.is("fires: the other FIRE stays as it is", x.fires(0, 1, 1), 20);
         DUE.is("fires(0, 0, 1)", x.fires(0, 0, 1), Due.BEYOND);
         DUE.is("fires(-1, 0, 1)", x.fires(-1, 0, 1), Due.BEYOND);

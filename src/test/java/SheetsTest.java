@@ -28,11 +28,13 @@ final class SheetsTest {
         DUE.is("sheet(0, 8, 40)", x.sheet(0, 8, 40), 40);
         DUE.is("sheet(3, 64, 0)", x.sheet(3, 64, 0), 0);
         DUE.is("of no numbers, but there", x.lays(3), 0);
+        x.write(0, 0, 4);
         x.write(0, 39, 5);
         DUE.is("kept as findings come", x.sheet(0, 8, 41), Due.BEYOND);
         DUE.is("number 39", x.write(0, 39, 6), 5);
         DUE.is("sheet(0, 16, 40): anew", x.sheet(0, 16, 40), 40);
-        DUE.is("all 0", x.write(0, 39, 7), 0);
+        DUE.is("all 0, the first", x.write(0, 0, 7), 0);
+        DUE.is("all 0, the last", x.write(0, 39, 7), 0);
         DUE.is("sheet(0, 16, 2): fewer", x.sheet(0, 16, 2), 2);
         DUE.is("number 2", x.write(0, 2, 0), Due.BEYOND);
         x.sheet(0, 16, 40);
@@ -104,6 +106,12 @@ final class SheetsTest {
         x = twoSheets();
         DUE.is("copy to itself, back", x.copy(1, 2, 1, 0, 6), 6);
         numbers(x, 1, 22, 23, 24, 25, 26, 27, 26, 27);
+        x = twoSheets();
+        DUE.is("copy of all", x.copy(0, 0, 1, 3, 5), 5);
+        numbers(x, 1, 20, 21, 22, 10, 11, 12, 13, 14);
+        x = twoSheets();
+        DUE.is("copy to all", x.copy(1, 3, 0, 0, 5), 5);
+        numbers(x, 0, 23, 24, 25, 26, 27);
         x = twoSheets();
         DUE.is("copy of none, at the ends", x.copy(0, 5, 1, 8, 0), 0);
         DUE.is("copy of none, behind", x.copy(0, 6, 1, 8, 0), Due.BEYOND);

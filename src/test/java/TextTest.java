@@ -88,6 +88,9 @@ final class TextTest {
         }
         DUE.is("the latest is so", Due.text(x, "room 2 air 5;room 2 air 6"), 2);
         DUE.is("AIR", x.roomOf(2, 0), 6);
+        DUE.is("the first and the last", Due.text(x, "room 0 air 1;room 7 air 2"), 2);
+        DUE.is("AIR of the first", x.roomOf(0, 0), 1);
+        DUE.is("AIR of the last", x.roomOf(7, 0), 2);
         DUE.is("0 each", Due.text(x, "room 2 air 0 frost 0 fire 0 tight 0"), 1);
         DUE.is("AIR 0", x.roomOf(2, 0), 0);
     }
@@ -112,6 +115,12 @@ final class TextTest {
         fault("Cold", 0);
         fault("colD", 0);
         fault("coldD", 4);
+        fault("coldz", 0);
+        fault("colda", 0);
+        fault("cold`", 4);
+        fault("cold{", 4);
+        fault("open 1:", 6);
+        fault("open 1/", 6);
         fault("cold\tmild", 4);
         fault("cold\n", 4);
         fault("cold\u00ff", 4);
