@@ -152,31 +152,29 @@ final class PeopleEdges {
         e.keeps("turned SLEEPER, as SLEEPER", Starts.with(RICH, x -> x.turn(0, 2)), x -> x.as(0, 2), 4);
     }
 
-    private static void left(Edges e, NinthAir x, int... needs) {
-        e.is("PEOPLE", x.count(0), needs.length);
-        for (int i = 0; i < needs.length; i++) {
-            e.is("NEED of " + i, x.of(i, 2), needs[i]);
+    /** KIND, ROOM, NEED, HOURS and STIFLED of each of a rich one's PEOPLE. */
+    private static final int[][] RICH_PEOPLE = {{4, 1, 4, 6, 0}, {3, 1, 5, 7, 0}, {5, 6, 9, 8, 1}};
+
+    private static void left(Edges e, NinthAir x, int... left) {
+        e.is("PEOPLE", x.count(0), left.length);
+        for (int i = 0; i < left.length; i++) {
+            for (int what = 0; what < 5; what++) {
+                e.is("of(" + i + ", " + what + ")", x.of(i, what), RICH_PEOPLE[left[i]][what]);
+            }
         }
-        e.is("no more", x.of(needs.length, 2), Due.BEYOND);
+        e.is("no more", x.of(left.length, 2), Due.BEYOND);
     }
 
     private static void goes(Edges e) {
         String sentence = "One goes away; those behind close up: its HOURS.";
-        e.test(11, sentence, "the first");
-        left(e, e.allowed("goes(0)", RICH, x -> x.goes(0), 6), 5, 9);
+        e.test(11, sentence, "the first: those behind close up with all that they have");
+        left(e, e.allowed("goes(0)", RICH, x -> x.goes(0), 6), 1, 2);
         e.test(11, sentence, "one between");
-        left(e, e.allowed("goes(1)", RICH, x -> x.goes(1), 7), 4, 9);
-        e.test(11, sentence, "the last");
-        left(e, e.allowed("goes(2)", RICH, x -> x.goes(2), 8), 4, 5);
+        left(e, e.allowed("goes(1)", RICH, x -> x.goes(1), 7), 0, 2);
+        e.test(11, sentence, "the last: nobody is behind it");
+        left(e, e.allowed("goes(2)", RICH, x -> x.goes(2), 8), 0, 1);
         e.test(11, sentence, "the only one");
         left(e, e.allowed("goes(0)", () -> Starts.people(1, 0, 0), x -> x.goes(0), 0));
-        e.test(11, sentence, "those behind close up with all that they have");
-        NinthAir x = Starts.rich();
-        x.goes(1);
-        int[] last = {5, 6, 9, 8, 1};
-        for (int what = 0; what < 5; what++) {
-            e.is("of(1, " + what + ")", x.of(1, what), last[what]);
-        }
         e.test(11, sentence, "of 8 the first and the last");
         e.is("PEOPLE", e.allowed("goes(0)", FULL, y -> y.goes(0), 6).count(0), 7);
         e.is("PEOPLE", e.allowed("goes(7)", FULL, y -> y.goes(7), 0).count(0), 7);

@@ -99,6 +99,16 @@ final class RoomEdges {
         e.keeps("one STIFLED", RICH, x -> x.roomOf(6, 5), 0);
         e.keeps("all", () -> Starts.people(8, 4, 7), x -> x.roomOf(7, 5), 8 * 13);
         e.keeps("none of the next ROOM", () -> Starts.people(8, 4, 7), x -> x.roomOf(6, 5), 0);
+        e.test(3, sentence, "what 4 and 5: all in it, and nobody of another ROOM");
+        Supplier<NinthAir> apart = Starts.with(() -> Starts.people(3, 0, 5), x -> {
+            x.set(0, 1, 4);
+            x.set(0, 2, 10);
+            x.set(2, 2, 20);
+        });
+        e.keeps("roomOf(4, 4)", apart, x -> x.roomOf(4, 4), 1);
+        e.keeps("roomOf(5, 4)", apart, x -> x.roomOf(5, 4), 6);
+        e.keeps("roomOf(4, 5)", apart, x -> x.roomOf(4, 5), 10);
+        e.keeps("roomOf(5, 5)", apart, x -> x.roomOf(5, 5), 23);
         e.test(3, "BEYOND.", "ROOM 0 to 7");
         e.rangeKept("roomOf(v, 1)", RICH, (x, v) -> x.roomOf(v, 1), 0, 30, 7, 37);
         e.rangeKept("roomOf(v, 4)", RICH, (x, v) -> x.roomOf(v, 4), 0, 0, 7, 0);
