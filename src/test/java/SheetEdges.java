@@ -40,7 +40,8 @@ final class SheetEdges {
     }
 
     private static void sheet(Edges e) {
-        String has = "A sheet has n numbers, all 0, of 8, 16 or 64 bits; bits 0: it is MISSING: n (0 if it is MISSING).";
+        String has = "A sheet has n numbers, all 0, of 8, 16 or 64 bits; bits 0: it is MISSING: "
+                + "n (0 if it is MISSING).";
         for (int bits : new int[] {8, 16, 64}) {
             e.test(33, has, "0, 1 and 40 numbers of " + bits + " bits");
             numbers(e, e.allowed("n 0", RICH, x -> x.sheet(1, bits, 0), 0), 1);
@@ -349,8 +350,8 @@ final class SheetEdges {
     }
 
     private static void read(Edges e) {
-        String sentence = "THE READER, who weighed: numbers of a sheet are AIR of a ROOM ON 0, 1, 2, .. HOURS: how many "
-                + "pairs of TIGHT (0 to 9) and FIRE (0 to 99) of that ROOM, in place of its own, make it just so.";
+        String sentence = "THE READER, who weighed: numbers of a sheet are AIR of a ROOM ON 0, 1, 2, .. HOURS: "
+                + "how many pairs of TIGHT (0 to 9) and FIRE (0 to 99) of that ROOM, in place of its own, make it just so.";
         e.test(38, sentence, "no numbers: all pairs");
         e.keeps("none", weighed(), x -> x.read(3, 7), 1000);
         e.test(38, sentence, "1 number: AIR as it is, 1 less, 1 more");
