@@ -48,6 +48,9 @@ public final class NinthAir {
     private static final int FROST = 1;
     private static final int FIRE = 2;
     private static final int TIGHT = 3;
+    private static final int PEOPLE_THERE = 4;
+    /** What is asked for with the highest what, of a ROOM and of one alike. */
+    private static final int BREATH = 5;
     /** By what of room(): AIR, FROST, FIRE, TIGHT. */
     private static final int[] MOST_OF_ROOM = {MOST_AIR, MOST_AIR, MOST_FIRE, MOST_TIGHT};
 
@@ -93,13 +96,13 @@ public final class NinthAir {
     }
 
     public int roomOf(int room, int what) {
-        if (noRoom(room) || outside(what, 0, 5)) {
+        if (noRoom(room) || outside(what, AIR, BREATH)) {
             return finding(BEYOND);
         }
-        if (what == 4) {
+        if (what == PEOPLE_THERE) {
             return night.peopleIn(room);
         }
-        if (what == 5) {
+        if (what == BREATH) {
             return night.breathIn(night.peopleIn(room));
         }
         return night.rowOfRooms(what)[room];
@@ -134,10 +137,10 @@ public final class NinthAir {
     }
 
     public int of(int one, int what) {
-        if (nobody(one) || outside(what, 0, 5)) {
+        if (nobody(one) || outside(what, WHICH_KIND, BREATH)) {
             return finding(BEYOND);
         }
-        if (what == 5) {
+        if (what == BREATH) {
             return night.breathOf(one);
         }
         return night.rowOfPeople(what)[one];
